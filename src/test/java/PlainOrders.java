@@ -1,12 +1,11 @@
 import java.util.ArrayList;
 import java.util.Arrays;
-import java.util.HashMap;
 import java.util.List;
-import java.util.Map;
 
 /**
  * The document once more, as near to its words as can be and without any thought for speed: all
- * ROWS OUT, sets, ways and maps are written out and looked through. For tests, on small ORDERS.
+ * ROWS OUT, sets, ways and maps are written out and looked through. For tests, on ORDERS that are
+ * small or have few ROWS OUT.
  */
 final class PlainOrders {
     /** An ORDER: its KIND and what is BELOW what. */
@@ -43,21 +42,29 @@ final class PlainOrders {
         List<int[]> rowsOut() {
             if (rows == null) {
                 rows = new ArrayList<>();
-                for (int[] row : allRows(n())) {
-                    if (keeps(row)) {
-                        rows.add(row);
-                    }
-                }
+                growRows(new ArrayList<>());
             }
             return rows;
         }
 
-        boolean keeps(int[] row) {
-            for (int i = 0; i < row.length; i++) {
-                for (int j = i + 1; j < row.length; j++) {
-                    if (below[row[j]][row[i]]) {
-                        return false;
-                    }
+        private void growRows(List<Integer> row) {
+            if (row.size() == n()) {
+                rows.add(row.stream().mapToInt(i -> i).toArray());
+                return;
+            }
+            for (int t = 0; t < n(); t++) {
+                if (!row.contains(t) && isBehindAll(row, t)) {
+                    row.add(t);
+                    growRows(row);
+                    row.remove(row.size() - 1);
+                }
+            }
+        }
+
+        private boolean isBehindAll(List<Integer> row, int t) {
+            for (int a = 0; a < n(); a++) {
+                if (below[a][t] && !row.contains(a)) {
+                    return false;
                 }
             }
             return true;
@@ -82,8 +89,6 @@ final class PlainOrders {
         }
     }
 
-    private static final Map<Integer, List<int[]>> ROWS = new HashMap<>();
-
     private final List<Plain> orders = new ArrayList<>();
     private final List<Integer> hand = new ArrayList<>();
     private int handFor = -1;
@@ -92,29 +97,6 @@ final class PlainOrders {
     private final int[][] sheets = new int[4][];
     private final int[] sorts = new int[4];
     private int status = 0;
-
-    /** All rows of 0 .. n - 1, the one with the lower number at the first unlike place ahead. */
-    private static List<int[]> allRows(int n) {
-        return ROWS.computeIfAbsent(n, many -> {
-            List<int[]> found = new ArrayList<>();
-            grow(new ArrayList<>(), many, found);
-            return found;
-        });
-    }
-
-    private static void grow(List<Integer> row, int n, List<int[]> found) {
-        if (row.size() == n) {
-            found.add(row.stream().mapToInt(i -> i).toArray());
-            return;
-        }
-        for (int t = 0; t < n; t++) {
-            if (!row.contains(t)) {
-                row.add(t);
-                grow(row, n, found);
-                row.remove(row.size() - 1);
-            }
-        }
-    }
 
     private static boolean in(int set, int t) {
         return (set & 1 << t) != 0;
@@ -710,18 +692,30 @@ final class PlainOrders {
         }
         Plain o = orders.get(order);
         Plain p = orders.get(other);
-        for (int[] map : allRows(o.n())) {
-            if (isMap(o, p, map)) {
-                return map[a];
-            }
-        }
-        return -1;
+        List<Integer> map = new ArrayList<>();
+        return growMap(o, p, map) ? map.get(a) : -1;
     }
 
-    private static boolean isMap(Plain o, Plain p, int[] map) {
-        for (int x = 0; x < o.n(); x++) {
-            for (int y = 0; y < o.n(); y++) {
-                if (o.below[x][y] != p.below[map[x]][map[y]]) {
+    private static boolean growMap(Plain o, Plain p, List<Integer> map) {
+        if (map.size() == o.n()) {
+            return true;
+        }
+        for (int t = 0; t < o.n(); t++) {
+            if (!map.contains(t)) {
+                map.add(t);
+                if (isMap(o, p, map) && growMap(o, p, map)) {
+                    return true;
+                }
+                map.remove(map.size() - 1);
+            }
+        }
+        return false;
+    }
+
+    private static boolean isMap(Plain o, Plain p, List<Integer> map) {
+        for (int x = 0; x < map.size(); x++) {
+            for (int y = 0; y < map.size(); y++) {
+                if (o.below[x][y] != p.below[map.get(x)][map.get(y)]) {
                     return false;
                 }
             }
