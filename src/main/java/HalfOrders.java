@@ -608,31 +608,30 @@ public final class HalfOrders {
     }
 
     private int readShort(Sheet s, int i) {
-        int why = s == null ? NOTHING_THERE : s.whyNotOf(1);
-        if (s == null || why != DONE) {
-            return refuse(why);
+        if (s == null) {
+            return refuse(NOTHING_THERE);
         }
-        return s.hasPlace(i) ? answer(s.numberAt(i)) : refuse(PLACE_OUTSIDE);
+        int why = s.whyNotOf(1);
+        if (why == DONE && !s.hasPlace(i)) {
+            why = PLACE_OUTSIDE;
+        }
+        return why == DONE ? answer(s.numberAt(i)) : refuse(why);
     }
 
     private int copyBytes(Sheet s, int n) {
-        int why = s == null ? NOTHING_THERE : s.whyNotOf(0);
-        if (s == null || why != DONE) {
-            return refuse(why);
+        if (s == null) {
+            return refuse(NOTHING_THERE);
         }
-        // Copied from place 1 on: with no numbers at all even none can be.
-        if (n < 0 || 1 + n > s.size || n + n > COPY_ROOM) {
-            return refuse(PLACE_OUTSIDE);
+        int why = s.whyNotOf(0);
+        // The host looks at place 1 even if it copies none: so a SHEET without numbers is too short.
+        if (why == DONE && (n < 0 || 1 + n > s.size || n + n > COPY_ROOM)) {
+            why = PLACE_OUTSIDE;
         }
-        int sum = 0;
-        for (int i = 1; i <= n; i++) {
-            sum += s.numberAt(i);
-        }
-        return answer(sum);
+        return why == DONE ? answer(s.sumOf(1, n)) : refuse(why);
     }
 
     private int putAmongStacks(Order o) {
-        // Nothing at all may be put into any row.
+        // Any row takes nothing at all, as the host's do.
         if (o == null) {
             return answer(0);
         }
@@ -705,6 +704,14 @@ public final class HalfOrders {
 
         int numberAt(int i) {
             return hasPlace(i) ? numbers[i] : NONE;
+        }
+
+        int sumOf(int from, int many) {
+            int sum = 0;
+            for (int i = from; i < from + many; i++) {
+                sum += numberAt(i);
+            }
+            return sum;
         }
 
         int whyNotOf(int asked) {

@@ -73,7 +73,7 @@ public final class RandomRunsTest {
         Object[] numbers = new Object[many];
         int orders = x.count(0);
         for (int i = 0; i < many; i++) {
-            numbers[i] = random.nextInt(12) - 1;
+            numbers[i] = within(random, -1, 10);
         }
         if (many > 0 && random.nextInt(8) != 0 && orders > 0) {
             numbers[0] = random.nextInt(orders);
@@ -84,28 +84,98 @@ public final class RandomRunsTest {
                 numbers[i] = random.nextInt(things);
             }
         }
-        switch (name) {
-            case "order": case "row": numbers[0] = random.nextInt(6) == 0 ? random.nextInt(14) - 2 : random.nextInt(6); break;
-            case "stack": case "beside": case "times": case "same": numbers[1] = random.nextInt(orders + 2) - 1; break;
-            case "part": numbers[1] = random.nextInt(9) == 0 ? random.nextInt() : random.nextInt(1 << things); break;
-            case "told": numbers[1] = random.nextInt(15) - 1; break;
-            case "of": numbers[2] = random.nextInt(4) - 1; break;
-            case "low": numbers[1] = random.nextInt(20) - 1; break;
-            case "rowOut": numbers[1] = random.nextInt(random.nextBoolean() ? 6 : 100) - 1; break;
-            case "unlike": numbers[0] = random.nextInt(random.nextBoolean() ? 6 : 100) - 1; break;
-            case "two": numbers[1] = random.nextInt(8) == 0 ? random.nextInt(4) - 1 : random.nextInt(2); break;
-            case "bound": numbers[3] = random.nextInt(8) == 0 ? random.nextInt(4) - 1 : random.nextInt(2); break;
-            case "lay": numbers[0] = random.nextInt(4) == 0 || x.count(2) < 0 ? numbers[0] : (Integer) x.count(2); break;
-            case "act": numbers[1] = random.nextInt(6) - 1; numbers[2] = random.nextBoolean() ? random.nextInt() : 5; break;
-            case "sheet": numbers[0] = random.nextInt(6) - 1; numbers[1] = random.nextInt(5) - 1; numbers[2] = random.nextInt(24) - 2; break;
-            case "cell": numbers[0] = random.nextInt(6) - 1; numbers[1] = random.nextInt(14) - 1;
-                numbers[2] = random.nextInt(5) == 0 ? random.nextInt(104) - 2 : random.nextInt(4); break;
-            case "pairs": numbers[1] = random.nextInt(6) - 1; numbers[2] = random.nextInt(5) - 1; numbers[3] = random.nextInt(13) - 1; break;
-            case "forge": numbers[0] = random.nextInt(9) - 1; numbers[1] = random.nextInt(random.nextBoolean() ? 10 : 220) - 4;
-                numbers[2] = random.nextInt(random.nextBoolean() ? 10 : 206) - (random.nextBoolean() ? 0 : 103); break;
-            case "count": case "hand": numbers[0] = random.nextInt(6) - 1; break;
-            default: break;
-        }
+        fitOrderCalls(name, numbers, random, x, things);
+        fitOtherCalls(name, numbers, random, x);
         return numbers;
+    }
+
+    private static int within(Random random, int least, int most) {
+        return least + random.nextInt(most - least + 1);
+    }
+
+    /** Mostly from 0 to what is usual, at times from one below to one over. */
+    private static int mostly(Random random, int usual, int least, int most) {
+        return random.nextInt(7) == 0 ? within(random, least, most) : within(random, 0, usual);
+    }
+
+    private static void fitOrderCalls(String name, Object[] numbers, Random random, HalfOrders x, int things) {
+        switch (name) {
+            case "order":
+            case "row":
+                numbers[0] = mostly(random, 5, -2, 11);
+                break;
+            case "stack":
+            case "beside":
+            case "times":
+            case "same":
+                numbers[1] = within(random, -1, x.count(0));
+                break;
+            case "part":
+                numbers[1] = random.nextInt(9) == 0 ? random.nextInt() : random.nextInt(1 << things);
+                break;
+            case "told":
+                numbers[1] = within(random, -1, 13);
+                break;
+            case "of":
+                numbers[2] = within(random, -1, 2);
+                break;
+            case "low":
+                numbers[1] = within(random, -1, 18);
+                break;
+            case "rowOut":
+                numbers[1] = mostly(random, 5, -1, 98);
+                break;
+            case "two":
+                numbers[1] = mostly(random, 1, -1, 2);
+                break;
+            case "bound":
+                numbers[3] = mostly(random, 1, -1, 2);
+                break;
+            default:
+                break;
+        }
+    }
+
+    private static void fitOtherCalls(String name, Object[] numbers, Random random, HalfOrders x) {
+        switch (name) {
+            case "count":
+            case "hand":
+                numbers[0] = within(random, -1, 4);
+                break;
+            case "unlike":
+                numbers[0] = mostly(random, 5, -1, 98);
+                break;
+            case "lay":
+                if (x.count(2) >= 0 && random.nextInt(4) != 0) {
+                    numbers[0] = x.count(2);
+                }
+                break;
+            case "act":
+                numbers[1] = within(random, -1, 4);
+                numbers[2] = random.nextInt();
+                break;
+            case "sheet":
+                numbers[0] = within(random, -1, 4);
+                numbers[1] = within(random, -2, 3);
+                numbers[2] = within(random, -2, 21);
+                break;
+            case "cell":
+                numbers[0] = within(random, -1, 4);
+                numbers[1] = within(random, -1, 12);
+                numbers[2] = mostly(random, 3, -2, 101);
+                break;
+            case "pairs":
+                numbers[1] = within(random, -1, 4);
+                numbers[2] = within(random, -1, 3);
+                numbers[3] = within(random, -1, 11);
+                break;
+            case "forge":
+                numbers[0] = within(random, -1, 7);
+                numbers[1] = mostly(random, 5, -103, 103);
+                numbers[2] = mostly(random, 7, -103, 103);
+                break;
+            default:
+                break;
+        }
     }
 }
