@@ -5,7 +5,7 @@ import java.util.Random;
 
 /** Runs of 512 calls with mixed and wrong numbers, each answered by the program and by the plain words. */
 public final class RandomRunsTest {
-    private static final int RUNS = 400;
+    private static final int RUNS = 1200;
     private static final int CALLS = 512;
     private static final int MOST_PLAIN_THINGS = 6;
 
@@ -35,11 +35,12 @@ public final class RandomRunsTest {
         Random random = new Random(run);
         HalfOrders x = new HalfOrders();
         PlainOrders y = new PlainOrders();
-        for (int i = 0; i < CALLS; i++) {
+        int used = 0;
+        for (int i = 0; i < CALLS && used + 5 <= CALLS; i++) {
             String name = CALLED[random.nextInt(CALLED.length)];
             Method ours = method(HalfOrders.class, name);
-            Object[] numbers = numbersFor(name, ours.getParameterCount(), random, x);
-            if (DEAR.contains(name) && isTooLarge(name, numbers, x)) {
+            Object[] numbers = numbersFor(name, ours.getParameterCount(), random, y);
+            if (DEAR.contains(name) && isTooLarge(name, numbers, y)) {
                 continue;
             }
             String call = "run " + run + ", call " + i + ": " + name + Arrays.toString(numbers);
@@ -47,9 +48,13 @@ public final class RandomRunsTest {
             long want = ((Number) method(PlainOrders.class, name).invoke(y, numbers)).longValue();
             Due.due(call, got, want);
             Due.due(call + ", status()", x.status(), y.status());
-            Due.due(call + ", count(1)", x.count(1), y.count(1));
-            Due.due(call + ", round(1)", x.round(1), y.round(1));
-            Due.due(call + ", trace(2)", x.trace(2), y.trace(2));
+            used += 2;
+            if (random.nextInt(4) == 0) {
+                Due.due(call + ", count(1)", x.count(1), y.count(1));
+                Due.due(call + ", round(1)", x.round(1), y.round(1));
+                Due.due(call + ", trace(2)", x.trace(2), y.trace(2));
+                used += 3;
+            }
         }
     }
 
@@ -64,28 +69,28 @@ public final class RandomRunsTest {
         throw new IllegalStateException(name);
     }
 
-    private static boolean isTooLarge(String name, Object[] numbers, HalfOrders x) {
-        int order = name.equals("hand") || name.equals("unlike") ? x.count(2) : (Integer) numbers[0];
-        return x.told(order, 1) > MOST_PLAIN_THINGS;
+    private static boolean isTooLarge(String name, Object[] numbers, PlainOrders y) {
+        int order = name.equals("hand") || name.equals("unlike") ? y.count(2) : (Integer) numbers[0];
+        return y.told(order, 1) > MOST_PLAIN_THINGS;
     }
 
-    private static Object[] numbersFor(String name, int many, Random random, HalfOrders x) {
+    private static Object[] numbersFor(String name, int many, Random random, PlainOrders y) {
         Object[] numbers = new Object[many];
-        int orders = x.count(0);
+        int orders = y.count(0);
         for (int i = 0; i < many; i++) {
             numbers[i] = within(random, -1, 10);
         }
         if (many > 0 && random.nextInt(8) != 0 && orders > 0) {
             numbers[0] = random.nextInt(orders);
         }
-        int things = many > 0 ? Math.max(1, x.told((Integer) numbers[0], 1)) : 1;
+        int things = many > 0 ? Math.max(1, y.told((Integer) numbers[0], 1)) : 1;
         for (int i = 1; i < many; i++) {
             if (random.nextInt(10) != 0) {
                 numbers[i] = random.nextInt(things);
             }
         }
-        fitOrderCalls(name, numbers, random, x, things);
-        fitOtherCalls(name, numbers, random, x);
+        fitOrderCalls(name, numbers, random, y, things);
+        fitOtherCalls(name, numbers, random, y);
         return numbers;
     }
 
@@ -98,7 +103,7 @@ public final class RandomRunsTest {
         return random.nextInt(7) == 0 ? within(random, least, most) : within(random, 0, usual);
     }
 
-    private static void fitOrderCalls(String name, Object[] numbers, Random random, HalfOrders x, int things) {
+    private static void fitOrderCalls(String name, Object[] numbers, Random random, PlainOrders y, int things) {
         switch (name) {
             case "order":
             case "row":
@@ -108,7 +113,7 @@ public final class RandomRunsTest {
             case "beside":
             case "times":
             case "same":
-                numbers[1] = within(random, -1, x.count(0));
+                numbers[1] = within(random, -1, y.count(0));
                 break;
             case "part":
                 numbers[1] = random.nextInt(9) == 0 ? random.nextInt() : random.nextInt(1 << things);
@@ -136,7 +141,7 @@ public final class RandomRunsTest {
         }
     }
 
-    private static void fitOtherCalls(String name, Object[] numbers, Random random, HalfOrders x) {
+    private static void fitOtherCalls(String name, Object[] numbers, Random random, PlainOrders y) {
         switch (name) {
             case "count":
             case "hand":
@@ -146,8 +151,8 @@ public final class RandomRunsTest {
                 numbers[0] = mostly(random, 5, -1, 98);
                 break;
             case "lay":
-                if (x.count(2) >= 0 && random.nextInt(4) != 0) {
-                    numbers[0] = x.count(2);
+                if (y.count(2) >= 0 && random.nextInt(4) != 0) {
+                    numbers[0] = y.count(2);
                 }
                 break;
             case "act":

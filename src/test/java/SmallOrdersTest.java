@@ -1,3 +1,6 @@
+import java.util.ArrayList;
+import java.util.List;
+
 /** All questions about all ORDERS of up to four THINGS, and many of five, against the plain words. */
 public final class SmallOrdersTest {
     private SmallOrdersTest() {
@@ -23,19 +26,37 @@ public final class SmallOrdersTest {
         x.order(n);
         y.order(n);
         String name = n + " THINGS, way " + way;
+        List<int[]> pairs = pairsOf(n, way);
+        for (int[] two : pairs) {
+            tell(name, x, y, two[0], two[1]);
+        }
+        y.dual(0);
+        new Compare(name, () -> made(n, pairs), y).askAll();
+    }
+
+    private static List<int[]> pairsOf(int n, int way) {
+        List<int[]> pairs = new ArrayList<>();
         int left = way;
         for (int a = 0; a < n; a++) {
             for (int b = a + 1; b < n; b++) {
                 int how = left % 3;
                 left /= 3;
                 if (how != 0) {
-                    tell(name, x, y, how == 1 ? a : b, how == 1 ? b : a);
+                    pairs.add(how == 1 ? new int[] {a, b} : new int[] {b, a});
                 }
             }
         }
+        return pairs;
+    }
+
+    private static HalfOrders made(int n, List<int[]> pairs) {
+        HalfOrders x = new HalfOrders();
+        x.order(n);
+        for (int[] two : pairs) {
+            x.pair(0, two[0], two[1]);
+        }
         x.dual(0);
-        y.dual(0);
-        new Compare(name, x, y).askAll();
+        return x;
     }
 
     private static void tell(String name, HalfOrders x, PlainOrders y, int low, int high) {

@@ -19,7 +19,7 @@ public final class WildTest {
     }
 
     public static void main(String[] args) throws ReflectiveOperationException {
-        for (int run = 0; run < 600; run++) {
+        for (int run = 0; run < 1500; run++) {
             wildRun(run);
         }
         roomStaysSmall();
@@ -38,7 +38,8 @@ public final class WildTest {
         }
         Method[] all = HalfOrders.class.getDeclaredMethods();
         Arrays.sort(all, (one, other) -> one.getName().compareTo(other.getName()));
-        for (int i = 0; i < 512; i++) {
+        // The ORDERS above took up to 104 calls, and each one here is two.
+        for (int i = 0; i < 200; i++) {
             Method method = all[random.nextInt(all.length)];
             if (Modifier.isPublic(method.getModifiers()) && (!method.getName().equals("drop") || calm == 0)) {
                 callOne(x, method, random, calm, run);
