@@ -296,6 +296,11 @@ public final class EdgesOfHandAndActsTest {
             Due.refused("33 act(0, " + none + ", 5)", x.act(0, none, 5), x, 1);
         }
         Due.due("33 count(3), all refused", x.count(3), 0);
+        int[] answers = {5, 10, 5, 10 ^ 5};
+        for (int act = 0; act < 4; act++) {
+            x.act(0, 4, 5);
+            Due.done("33 act(0, " + act + ", 5), behind a refused one", x.act(0, act, 5), answers[act], x);
+        }
         Due.done("33 act(0, 0, 5), the first", x.act(0, 0, 5), 5, x);
         Due.done("33 act(0, 3, 5), the last", x.act(0, 3, 5), 10 ^ 5, x);
         // An ACT may answer -1, and is done all the same.
@@ -468,5 +473,7 @@ public final class EdgesOfHandAndActsTest {
         Due.due("34 the most bodies", longest, 11);
         x.act(4, 3, 1);
         traceIs(x, 21, 13, 40, 11, 20, 10, 41, 30, 12, 20, 10);
+        x.act(5, 3, 1);
+        traceIs(x, 51, 12, 13, 11, 50, 10, 12);
     }
 }

@@ -32,6 +32,8 @@ public final class EdgesOfOrdersTest {
         allPairsOfTen();
         duals();
         bitsOfAPart();
+        numbersOfAPart();
+        madeBehindQuestions();
         dropOfNone();
         dropAndTheHand();
         dropLeavesTheRest();
@@ -396,6 +398,9 @@ public final class EdgesOfOrdersTest {
             }
         }
         Due.due("3 told(0, 2), what follows and no more", x.told(0, 2), 18);
+        // 0 is BELOW 2 already, and is not counted once more.
+        x = Make.told(3, 0, 1, 0, 2, 1, 2);
+        Due.due("3 told(0, 2), some of it so already", x.told(0, 2), 3);
     }
 
     /** The most pairs that there are: of ten THINGS 45. */
@@ -456,6 +461,33 @@ public final class EdgesOfOrdersTest {
         Due.due("11 told(6, 2)", x.told(6, 2), 45);
         Due.done("11 part(0, 513), first and last", x.part(0, 513), 7, x);
         Due.due("11 below(7, 0, 1), NEXT now", x.below(7, 0, 1), 2);
+    }
+
+    /** "numbered from 0 in their order": 2, 5 and 9 of ten become 0, 1 and 2. */
+    private static void numbersOfAPart() {
+        HalfOrders x = Make.told(10, 9, 2, 0, 1, 5, 6);
+        Due.done("11 part(0, 548)", x.part(0, 548), 1, x);
+        Due.due("11 told(1, 1)", x.told(1, 1), 3);
+        Due.due("11 told(1, 2)", x.told(1, 2), 1);
+        Due.due("11 below(1, 2, 0)", x.below(1, 2, 0), 2);
+        Due.done("11 part(0, 3)", x.part(0, 3), 2, x);
+        Due.due("11 below(2, 0, 1)", x.below(2, 0, 1), 2);
+    }
+
+    /** What was asked ahead of them does not show in the ORDERS that are made. */
+    private static void madeBehindQuestions() {
+        HalfOrders x = Make.told(2, 1, 0);
+        x.order(10);
+        Due.due("19 rowOut(1, 0, 9)", x.rowOut(1, 0, 9), 9);
+        Due.done("8 held(0)", x.held(0), 2, x);
+        Due.due("8 told(2, 1)", x.told(2, 1), 3);
+        Due.due("8 below(2, 0, 1)", x.below(2, 0, 1), 2);
+        Due.due("8 below(2, 1, 2)", x.below(2, 1, 2), 2);
+        Due.due("8 below(2, 2, 1)", x.below(2, 2, 1), 0);
+        Due.due("23 two(1, 1, 9)", x.two(1, 1, 9), 0);
+        Due.done("11 part(0, 3)", x.part(0, 3), 3, x);
+        Due.due("11 below(3, 1, 0)", x.below(3, 1, 0), 2);
+        Due.due("11 below(3, 0, 1)", x.below(3, 0, 1), 0);
     }
 
     /** "STATUS 3 (there is none)." */

@@ -292,6 +292,16 @@ public final class EdgesOfQuestionsTest {
         Make.tell(x, 2, 0, 2, 1, 2, 1, 3);
         // 1 3 0 2 jumps behind 3 alone.
         Due.due("13 told(2, 8)", x.told(2, 8), 1);
+        x.order(4);
+        Make.tell(x, 3, 1, 0, 1, 2, 3, 2);
+        // 1 0 3 2 jumps behind 0 alone.
+        Due.due("13 told(3, 8)", x.told(3, 8), 1);
+        x.order(3);
+        Make.tell(x, 4, 2, 1);
+        Due.due("13 told(4, 8)", x.told(4, 8), 1);
+        x.order(3);
+        Make.tell(x, 5, 0, 2, 1, 2);
+        Due.due("13 told(5, 8)", x.told(5, 8), 1);
     }
 
     /** "2: a is NEXT to b; 1: BELOW, but not NEXT; 0: neither." */
@@ -305,6 +315,9 @@ public final class EdgesOfQuestionsTest {
         Make.tell(x, 0, 1, 2);
         Due.due("15 below(0, 0, 2), not NEXT any more", x.below(0, 0, 2), 1);
         Due.due("13 told(0, 3)", x.told(0, 3), 2);
+        x.order(3);
+        Make.tell(x, 1, 2, 1, 1, 0);
+        Due.due("13 told(1, 3), NEXT to the first THING", x.told(1, 3), 2);
     }
 
     /** "of those, the one with the least first THING, then second one, and so on". */
@@ -322,6 +335,10 @@ public final class EdgesOfQuestionsTest {
         Make.tell(x, 3, 4, 0, 4, 1, 2, 0, 2, 1);
         // {0, 1, 3} and {2, 3, 4}.
         Due.due("16 widest(3), the least first THING", x.widest(3), 11);
+        x.order(4);
+        Make.tell(x, 4, 0, 1, 0, 2, 3, 1, 3, 2);
+        // {0, 3} and {1, 2}: the bits of the first are more, its first THING is less.
+        Due.due("16 widest(4), the least first THING", x.widest(4), 9);
     }
 
     /** "a way to put each THING into one of WIDTH CHAINS, which are numbered by their least THINGS". */
@@ -348,6 +365,12 @@ public final class EdgesOfQuestionsTest {
             Due.due("17 of(0, " + t + ", 1)", x.of(0, t, 1), due[t]);
         }
         Due.due("13 told(0, 6)", x.told(0, 6), 4);
+        x.order(3);
+        Make.tell(x, 1, 2, 1, 1, 0);
+        for (int t = 0; t < 3; t++) {
+            Due.due("17 of(1, " + t + ", 1), the first THING over all", x.of(1, t, 1), 2 - t);
+        }
+        Due.due("13 told(1, 6)", x.told(1, 6), 3);
     }
 
     /** "LOW SET i. -1: none such." */
@@ -499,6 +522,12 @@ public final class EdgesOfQuestionsTest {
             Due.due("23 two(1, 0, " + i + ")", x.two(1, 0, i), i);
             Due.due("23 two(1, 1, " + i + ")", x.two(1, 1, i), 9 - i);
         }
+        HalfOrders ten = new HalfOrders();
+        ten.row(10);
+        for (int i = 0; i < 10; i++) {
+            Due.due("23 two(0, 0, " + i + "), a ROW", ten.two(0, 0, i), i);
+            Due.due("23 two(0, 1, " + i + "), a ROW", ten.two(0, 1, i), i);
+        }
         // The ROW with rank 0 is none of TWO: 0 1 2 3 parts 0 and 3 by 1 or 2, which are in order with neither.
         x.order(4);
         Make.tell(x, 2, 0, 3, 1, 2);
@@ -508,6 +537,16 @@ public final class EdgesOfQuestionsTest {
             Due.due("23 two(2, 0, " + i + ")", x.two(2, 0, i), first[i]);
             Due.due("23 two(2, 1, " + i + ")", x.two(2, 1, i), second[i]);
         }
+        // No first ROW begins with 0 1, but that shows only at the places behind.
+        x.order(5);
+        Make.tell(x, 3, 0, 3, 2, 3, 1, 3, 1, 4);
+        int[] third = {0, 2, 1, 3, 4};
+        int[] fourth = {1, 4, 2, 0, 3};
+        for (int i = 0; i < 5; i++) {
+            Due.due("23 two(3, 0, " + i + ")", x.two(3, 0, i), third[i]);
+            Due.due("23 two(3, 1, " + i + ")", x.two(3, 1, i), fourth[i]);
+        }
+        Due.due("23 two(3, 0, 5)", x.two(3, 0, 5), -1);
     }
 
     /** "The i-th THING of the first (which 0) or second (1) ROW of TWO. -1: none such." */
@@ -592,6 +631,10 @@ public final class EdgesOfQuestionsTest {
         x.order(5);
         Make.tell(x, 5, 0, 1, 0, 3, 3, 2, 1, 4, 2, 4);
         Due.due("26 uneven(5)", x.uneven(5), 213);
+        // 2 under 0 under 1 under 4, 2 under 3 under 4.
+        x.order(5);
+        Make.tell(x, 6, 2, 0, 0, 1, 1, 4, 2, 3, 3, 4);
+        Due.due("26 uneven(6), b is 0", x.uneven(6), 103);
     }
 
     /** "the first four (by a, then b, c, d) .. -1: there are none, or no such ORDER." */
@@ -612,6 +655,13 @@ public final class EdgesOfQuestionsTest {
         x.order(5);
         Make.tell(x, 4, 0, 4, 1, 4, 1, 2, 1, 3);
         Due.due("27 bent(4)", x.bent(4), 142);
+        int[][] pairs = {{1, 3, 0, 3, 0, 2}, {1, 0, 2, 0, 2, 3}, {1, 3, 2, 3, 2, 0}};
+        int[] due = {1032, 1203, 1230};
+        for (int i = 0; i < pairs.length; i++) {
+            x.order(4);
+            Make.tell(x, 5 + i, pairs[i]);
+            Due.due("27 bent(" + (5 + i) + "), not from 0", x.bent(5 + i), due[i]);
+        }
     }
 
     /** "-1: there is none, or no such": another n, no map, no such THING. */
@@ -648,5 +698,13 @@ public final class EdgesOfQuestionsTest {
         for (int t = 0; t < 10; t++) {
             Due.due("28 same(0, 1, " + t + "), ten", ten.same(0, 1, t), map[t]);
         }
+        // One ring of ten, and two rings of four and six: all THINGS are alike, and there is no map.
+        ten.order(10);
+        ten.order(10);
+        Make.tell(ten, 2, 0, 5, 0, 6, 1, 6, 1, 7, 2, 7, 2, 8, 3, 8, 3, 9, 4, 9, 4, 5);
+        Make.tell(ten, 3, 0, 5, 0, 6, 1, 6, 1, 5, 2, 7, 2, 8, 3, 8, 3, 9, 4, 9, 4, 7);
+        Due.due("28 same(2, 3, 0), rings", ten.same(2, 3, 0), -1);
+        Due.due("28 same(3, 2, 9), rings", ten.same(3, 2, 9), -1);
+        Due.due("28 same(2, 2, 9), rings", ten.same(2, 2, 9), 9);
     }
 }

@@ -69,6 +69,9 @@ public final class RoundTest {
         roundIs("by the shorter way", x, 0, 7, 8, 9);
         Due.refused("3 pair(0, 9, 1)", x.pair(0, 9, 1), x, 3);
         roundIs("by the only way", x, 1, 2, 3, 9);
+        HalfOrders through = Make.told(4, 1, 0, 0, 2, 2, 3);
+        Due.refused("3 pair(0, 3, 1)", through.pair(0, 3, 1), through, 3);
+        roundIs("through the first THING", through, 1, 0, 2, 3);
     }
 
     /** "of several the one with the least THING at the first place at which they differ". */

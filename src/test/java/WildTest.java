@@ -56,7 +56,8 @@ public final class WildTest {
         String call = "run " + run + ": " + method.getName() + Arrays.toString(numbers);
         try {
             method.invoke(x, numbers);
-            Due.due(call + " status", x.status() >= 0 && x.status() <= 15 ? 1 : 0, 1);
+            int status = x.status();
+            Due.due(call + " status", status >= 0 && status <= 15 ? 1 : 0, 1);
         } catch (InvocationTargetException thrown) {
             Due.due(call + " threw " + thrown.getCause(), 1, 0);
         }
